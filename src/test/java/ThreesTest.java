@@ -174,6 +174,8 @@ public final class ThreesTest {
             0, TOUCHED, 2, STRUCK, 2, TOUCHED, 0, LEFT, 0, STRUCK);
         told(x, new int[] {0, -9, 6, 511, 0}, 2, STRUCK, 9, BARS);
         told(x, new int[] {1, -9, 6, 511, 6}, 2, STRUCK, 9, BARS, 2, STRUCK);
+        told(x, new int[] {0, -9, 5, 511, 0}, 2, STRUCK, 5, BARS, 2, TOUCHED, 4, BARS);
+        told(x, new int[] {1, -9, 6, 511, 6}, 2, STRUCK, 6, BARS, 2, STRUCK);
         told(x, new int[] {3, -9, 0, 511, 52}, 0, STRUCK, 1, STRUCK, 2, STRUCK);
         told(x, new int[] {1, -9, 9, 504, 22}, 1, STRUCK, 1, LEFT, 0, STRUCK, 9, BARS);
         told(x, new int[] {1, -9, 0, 448, 6}, 2, STRUCK, 0, LEFT, 0, LEFT);
@@ -263,6 +265,8 @@ public final class ThreesTest {
             Due.row(x, 2, 2, 0, STRUCK, pair[0], pair[1]);
             Due.due("season with " + pair[0] + " and " + pair[1], x.season(2, 2, 0, 2, 1), -2);
             Due.due("season ahead of it", x.season(2, 2, 0, 1, 1), -9);
+            Due.row(x, 2, 2, pair[0], pair[1], 0, STRUCK);
+            Due.due("season that begins with " + pair[0] + " and " + pair[1], x.season(2, 2, 0, 2, 1), -2);
             // A pair that is not as told is refused, if an act ahead of it can't be, too.
             Due.row(x, 2, 2, 0, TOUCHED, pair[0], pair[1]);
             Due.due("season wrong ahead of " + pair[0] + " and " + pair[1], x.season(2, 2, 0, 2, 1), -2);

@@ -102,6 +102,9 @@ public final class WhoCanHangTest {
         x.bend(3, 9);
         x.bend(0, 9);
         most(x, 1, 20, 0, 0, 9, 0);
+        x.bend(0, 1);
+        x.bend(2, 4);
+        most(x, 0, 0, 9, 9, 9, 9);
     }
 
     private static void whoWouldRatherBe() {
@@ -121,6 +124,8 @@ public final class WhoCanHangTest {
         Due.due("none can HANG", can.rather(), -9);
         StruckThrees still = Due.townOf("t;w1;w1;w1");
         Due.due("0 is not more than 0", still.rather(), -9);
+        StruckThrees least = Due.townOf("t;w1;w1;s1");
+        Due.due("1 is more than 0", least.rather(), 7);
         StruckThrees each = Due.townOf("t;b9;b9;b9;s5;s5;s6;s4");
         each.hang(0, 1, 2);
         each.hang(3, 4, 6);
@@ -180,6 +185,11 @@ public final class WhoCanHangTest {
             String call = "together(" + c[0] + ", " + c[1] + ", " + c[2] + ")";
             Due.due(call, x.together(c[0], c[1], c[2]), c[3]);
             Due.due("fault() behind " + call, x.fault(), c[4]);
+        }
+        for (int v : new int[] {-1, 100, MAX, MIN}) {
+            Due.row(x, 2, 2, v, 0, v);
+            Due.due("the first is " + v, x.together(2, 2, 0), -2);
+            Due.due("the last is " + v, x.together(2, 2, 1), -2);
         }
         StruckThrees none = new StruckThrees();
         Due.due("together without a TOWN", none.together(0, 0, 0), -3);
