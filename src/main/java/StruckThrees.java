@@ -189,7 +189,8 @@ public final class StruckThrees {
         for (int t = 0; t < threes.count; t++) {
             if (row.at(i + t) < 0 || row.at(i + t) > 99) return OUTSIDE;
         }
-        for (int at = 0; at <= 999; at++) {
+        int pitch = Math.max(1, people.pitchOf(threes.setOf(0)));
+        for (int at = row.at(i); at <= 999; at += pitch) {
             if (allAreStruckAt(at, row, i)) return at;
         }
         return NONE;
@@ -761,10 +762,10 @@ public final class StruckThrees {
             int first = Integer.lowestOneBit(waiting);
             int others = waiting & ~first;
             for (int b = 0; b < people.count; b++) {
+                if ((others & 1 << b) == 0) continue;
                 for (int c = b + 1; c < people.count; c++) {
-                    int two = 1 << b | 1 << c;
-                    if ((others & two) == two && people.canHang(first | two)) {
-                        int set = first | two;
+                    int set = first | 1 << b | 1 << c;
+                    if ((others & 1 << c) != 0 && people.canHang(set)) {
                         place(people, waiting & ~set, hung + 1, rung + people.ringsOf(set), write(line, set, hung));
                     }
                 }

@@ -187,9 +187,9 @@ public final class WhoCanHangTest {
             Due.due("fault() behind " + call, x.fault(), c[4]);
         }
         for (int v : new int[] {-1, 100, MAX, MIN}) {
-            Due.row(x, 2, 2, v, 0, v);
+            Due.row(x, 2, 2, v, 0, 0, v);
             Due.due("the first is " + v, x.together(2, 2, 0), -2);
-            Due.due("the last is " + v, x.together(2, 2, 1), -2);
+            Due.due("the last is " + v, x.together(2, 2, 2), -2);
         }
         StruckThrees none = new StruckThrees();
         Due.due("together without a TOWN", none.together(0, 0, 0), -3);
