@@ -23,9 +23,10 @@ public final class SheetsTest {
     }
 
     private static void sheetsGetRows() {
-        StruckThrees x = new StruckThrees();
         for (int k = 0; k < 4; k++) {
             for (int lane = 0; lane < 3; lane++) {
+                // An object of its own, as one is used for at most 512 calls.
+                StruckThrees x = new StruckThrees();
                 for (int n : new int[] {0, 1, 59, 60, 7}) {
                     Due.due("sheet(" + k + ", " + lane + ", " + n + ")", x.sheet(k, lane, n), 1);
                     for (int i = 0; i < n; i++) {
@@ -37,8 +38,11 @@ public final class SheetsTest {
                 }
             }
         }
+        StruckThrees x = new StruckThrees();
+        Due.row(x, 0, 2, 1, 2, 3);
+        Due.row(x, 1, 2, 7, 7, 7);
         Due.due("another row", x.sheet(0, 0, 3), 1);
-        Due.due("other SHEETS as they were", x.cell(1, 6, 2), 7);
+        Due.due("other SHEETS as they were", x.cell(1, 2, 2), 7);
         Due.due("of it nothing is left", x.cell(0, 2, 0), 0);
     }
 

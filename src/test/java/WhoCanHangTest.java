@@ -64,7 +64,7 @@ public final class WhoCanHangTest {
         most(Due.townOf("t;s1;s2;s3"), 0, 0, 9, 9, 9);
         most(Due.townOf("t;s1;s2;s2"), 1, 5, 0, 0, 0);
         most(Due.townOf("t;w1;w1;w1"), 1, 0, 0, 0, 0);
-        // One three of 9s and 8s rings longer than any two could, but two are more.
+        // The three of 9s rings as long alone, but two are more.
         most(Due.townOf("t;b9;w1;w1;b9;w1;b9"), 2, 54, 0, 1, 1, 0, 1, 0);
         most(Due.townOf("t;b9;b9;w1;b9;w9;w9"), 2, 62, 0, 0, 0, 1, 1, 1);
         most(Due.townOf("t;s1;s1;s1;s1;s1;s1;s1;s1;s1"), 3, 9, 0, 0, 0, 1, 1, 1, 2, 2, 2);
