@@ -8,6 +8,7 @@ public final class ThreesEdgesTest {
     public static void main(String[] args) {
         whichSidesCanHang();
         pitchAndRingsAtTheirEnds();
+        onlyWhoIsInItCounts();
         threesAreNumberedByHowMany();
         nobodyIsInTwo();
         noThreeBehindTheLast();
@@ -72,6 +73,21 @@ public final class ThreesEdgesTest {
             Due.due("strike " + texts[k], x.strike(0), rings[k]);
             Due.due("RINGS yet " + texts[k], x.ofThree(0, 5), rings[k]);
         }
+    }
+
+    /** Promise 6: 'Of a THREE': what others in the TOWN are, ahead of them and behind them, does not count. */
+    private static void onlyWhoIsInItCounts() {
+        StruckThrees x = Due.townOf("t;s9;s5;w6;s1;b7;s4;w4;b3;s9");
+        int[][] threes = {{1, 2, 4}, {5, 6, 7}, {7, 6, 5}, {1, 5, 6}, {0, 4, 8}};
+        int[][] dues = {{22, 18, 22, 0, 4}, {224, 11, 12, 1, 6}, {224, 11, 12, 1, 6}, {98, 13, 11, 1, 1}, {273, 25, 32, 1, 8}};
+        for (int k = 0; k < threes.length; k++) {
+            Due.due("hang " + k, x.hang(threes[k][0], threes[k][1], threes[k][2]), 0);
+            for (int what = 0; what < 5; what++) Due.due("ofThree(0, " + what + ") of " + k, x.ofThree(0, what), dues[k][what]);
+            Due.due("leave " + k, x.leave(0), dues[k][4]);
+        }
+        for (int p = 0; p < 3; p++) x.bend(p, 8);
+        x.hang(0, 1, 2);
+        Due.due("all alike among others", x.ofThree(0, 3), 2);
     }
 
     private static StruckThrees hung(String text, int threes) {

@@ -15,6 +15,7 @@ public final class WhoCanHangEdgesTest {
         ofSeveralTheFirstRow();
         threesAreNumberedByTheLeastPerson();
         mostGoesByAllPeople();
+        mostGoesByWhatIsNow();
         moreThanTheJoyOfEach();
         theLeastSetRather();
         ratherNone();
@@ -165,6 +166,9 @@ public final class WhoCanHangEdgesTest {
         // PERSON 0 can HANG with two of the 5s, but RINGS less than a third one.
         most("t;s1;s5;s5;s5;s5", 1, 15, 9, 0, 0, 0, 9);
         most("t;s5;s1;s5;s1;s5", 1, 15, 0, 9, 0, 9, 0);
+        // 8 6 8 and 3 4 2 ring as 8 4 6 and 8 7 2 do, where PERSON 1 is in none.
+        most("t;b8;s3;s4;b6;b8;w7;b2", 2, 55, 0, 1, 1, 0, 0, 9, 1);
+        most("t;s5;b1;w4;s9;b3;w7;b3", 2, 31, 0, 1, 9, 0, 1, 0, 1);
     }
 
     /** 'THREES are numbered by the least PERSON in each'. */
@@ -183,6 +187,25 @@ public final class WhoCanHangEdgesTest {
         x.hang(0, 1, 3);
         Due.due("RINGS", x.most(-1), 30);
         Due.due("what HANGS is as it was", x.ofThree(1, 0), 11);
+    }
+
+    /** The same, of SIDES that are bent and of another TOWN: fewer THREES, fewer RINGS, a row further on. */
+    private static void mostGoesByWhatIsNow() {
+        StruckThrees x = Due.townOf("t;s5;s5;s5;s5;s5;s5");
+        Due.due("THREES at first", x.most(-2), 2);
+        x.bend(0, 4);
+        Due.due("fewer RINGS", x.most(-1), 29);
+        x.bend(5, 1);
+        x.bend(4, 9);
+        Due.due("fewer THREES", x.most(-2), 1);
+        // 5 5 and the 9 ring longest, and who is left can't HANG.
+        Due.due("RINGS of them", x.most(-1), 19);
+        int[] row = {-9, 0, 0, -9, 0, -9};
+        for (int p = 0; p < 6; p++) Due.due("PERSON " + p, x.most(p), row[p]);
+        Due.due("another TOWN", Due.settle(x, "t;s1;s2;s3"), 3);
+        Due.due("no THREES", x.most(-2), 0);
+        Due.due("no RINGS", x.most(-1), 0);
+        for (int p = 0; p < 9; p++) Due.due("PERSON " + p + " of another TOWN", x.most(p), -9);
     }
 
     /** 'RATHER: three PEOPLE who can HANG, whose RINGS are more than the JOY of each of them': as much is not more. */
