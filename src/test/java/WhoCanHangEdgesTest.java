@@ -150,7 +150,7 @@ public final class WhoCanHangEdgesTest {
 
     /** 'those with the most THREES; of these those with the most RINGS together'. */
     private static void mostThreesAheadOfMostRings() {
-        // Fewer THREES never ring longer (all towns were looked through); here one rings as long as two do.
+        // Fewer THREES never ring longer (NOTES.md); here one rings as long as two do.
         most("t;b9;b9;s9;w1;w1;w1", 2, 45, 0, 0, 0, 1, 1, 1);
         most("t;w1;w1;w1;b9;b9;s9;s3", 2, 45, 0, 0, 0, 1, 1, 1, 9);
         most("t;b5;w5;w4;b5;w5;w4", 2, 28, 0, 0, 0, 1, 1, 1);
