@@ -33,6 +33,7 @@ public final class ThreesEdgesTest {
         fromHowAllIsNow();
         inHowManyBarsAnyRang();
         cellsOfEachLane();
+        nothingIsNoCastOfASeason();
         Due.finish();
     }
 
@@ -504,6 +505,28 @@ public final class ThreesEdgesTest {
                 // As bytes both are 0 and 0; as shorts 256 and 0; as ints 256 and 65536.
                 Due.due("lane " + lane + " as " + as, x.season(1, as, 0, 1, 1), as != lane ? -12 : lane == 0 ? -9 : -2);
                 Due.due("its fault", x.fault(), as != lane ? 2 : 0);
+            }
+        }
+    }
+
+    /**
+     * Promise 11: 'FAULTS CAST, NULL, INDEX'; Terms: '1 NULL (there is nothing), 2 CAST (it is of another lane, kind)': where a
+     * SHEET has nothing, nothing is of another LANE, whichever it had, and whether there is a TOWN or none.
+     */
+    private static void nothingIsNoCastOfASeason() {
+        for (int had = -1; had < 3; had++) {
+            for (int lane = 0; lane < 3; lane++) {
+                for (StruckThrees x : new StruckThrees[] {hung(SIX, 2), new StruckThrees()}) {
+                    if (had >= 0) Due.due("a row that is lost", x.sheet(1, had, 4) + x.lose(1), 2);
+                    for (int[] a : new int[][] {{0, 0, 0}, {0, 2, 1}, {-1, 20, 4}, {61, 0, 3}}) {
+                        Due.due("a row ahead", x.sheet(2, (lane + 1) % 3, 4), 1);
+                        Due.due("CAST ahead", x.season(2, lane, a[0], a[1], a[2]), -12);
+                        Due.due("nothing as a SEASON of " + lane + ", had " + had, x.season(1, lane, a[0], a[1], a[2]), -11);
+                        Due.due("its fault", x.fault(), 1);
+                    }
+                    Due.due("OUTSIDE ahead of it: n", x.season(1, lane, 0, 21, 0), -2);
+                    Due.due("its fault", x.fault(), 0);
+                }
             }
         }
     }

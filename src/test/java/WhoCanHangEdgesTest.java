@@ -24,6 +24,8 @@ public final class WhoCanHangEdgesTest {
         barsFrom0To999();
         notAheadOfItsFirstBar();
         neverTogether();
+        numbersOfEachLane();
+        nothingIsNoCastOfNumbers();
         Due.finish();
     }
 
@@ -342,5 +344,44 @@ public final class WhoCanHangEdgesTest {
         Due.due("the same PITCH, never", same.together(1, 2, 0), -9);
         same.put(1, 1, 6);
         Due.due("the same PITCH, once behind", same.together(1, 2, 0), 6);
+    }
+
+    /** Promise 15: 'lane', 'CAST': numbers of bytes, shorts and ints, each taken as a row of its own LANE alone. */
+    private static void numbersOfEachLane() {
+        for (int lane = 0; lane < 3; lane++) {
+            StruckThrees x = hung("t;s5;s5;s5;s5;s5;s5", 2);
+            // 65539 is 3 as a byte and as a short; 259 is 3 as a byte alone.
+            Due.row(x, 1, lane, 3, 65536 + 3, 256 + 3, 3);
+            int[] dues = {3, 3, -2}, behind = {3, -2, -2};
+            for (int as = 0; as < 3; as++) {
+                Due.due("lane " + lane + " as " + as, x.together(1, as, 0), as != lane ? -12 : dues[lane]);
+                Due.due("its fault", x.fault(), as != lane ? 2 : 0);
+                Due.due("lane " + lane + " as " + as + " from 1 on", x.together(1, as, 1), as != lane ? -12 : behind[lane]);
+                Due.due("CAST ahead of INDEX", x.together(1, as, 3), as != lane ? -12 : -13);
+            }
+        }
+    }
+
+    /**
+     * Promise 15: 'STATE: no THREE HANGS; FAULTS CAST, NULL, INDEX'; Terms: '1 NULL (there is nothing), 2 CAST (it is of another
+     * lane, kind)': where a SHEET has nothing, nothing is of another LANE, whichever it had.
+     */
+    private static void nothingIsNoCastOfNumbers() {
+        for (int had = -1; had < 3; had++) {
+            for (int lane = 0; lane < 3; lane++) {
+                StruckThrees x = hung("t;s5;s5;s5;s5;s5;s5", 2);
+                if (had >= 0) Due.due("a row that is lost", x.sheet(1, had, 4) + x.lose(1), 2);
+                x.sheet(2, (lane + 1) % 3, 4);
+                for (int i : new int[] {0, -1, 61}) {
+                    Due.due("CAST ahead", x.together(2, lane, i), -12);
+                    Due.due("nothing as numbers of " + lane + ", had " + had, x.together(1, lane, i), -11);
+                    Due.due("its fault", x.fault(), 1);
+                }
+                x.leave(0);
+                x.leave(0);
+                Due.due("STATE ahead of it", x.together(1, lane, 0), -3);
+                Due.due("its fault", x.fault(), 0);
+            }
+        }
     }
 }
